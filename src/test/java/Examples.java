@@ -1,0 +1,116 @@
+import java.util.Arrays;
+
+/** Diagrams to test with, and ways to put them in and to read them whole. */
+final class Examples {
+    /** A circle with one kink: edge 1 is its loop at the left, edge 2 the other one. */
+    static final int[][] EIGHT = {{1, 2, 2, 1, 1}};
+    static final int[][] TREFOIL = {{1, 1, 5, 2, 4}, {1, 3, 1, 4, 6}, {1, 5, 3, 6, 2}};
+    static final int[][] HOPF = {{1, 3, 2, 4, 1}, {1, 2, 3, 1, 4}};
+    /** Two rings, one lying on the other: edges 1 and 2 are the upper ring's. */
+    static final int[][] TWO_RINGS = {{1, 3, 2, 4, 1}, {-1, 4, 2, 3, 1}};
+    /**
+     * Three round rings as in a Venn diagram, all counterclockwise, A (1 .. 4) on B (5 .. 8) on C
+     * (9 .. 12). The crossings: AB outside, AB inside, AC outside, AC inside, BC outside, BC inside.
+     */
+    static final int[][] THREE_RINGS = {
+        {-1, 7, 4, 8, 1}, {1, 5, 3, 6, 2}, {1, 12, 4, 9, 3},
+        {-1, 10, 1, 11, 2}, {-1, 11, 8, 12, 5}, {1, 9, 7, 10, 6}};
+    /** The same rings with C on A: the Borromean ones. */
+    static final int[][] BORROMEAN = {
+        {-1, 7, 4, 8, 1}, {1, 5, 3, 6, 2}, {-1, 3, 12, 4, 9},
+        {1, 1, 11, 2, 10}, {-1, 11, 8, 12, 5}, {1, 9, 7, 10, 6}};
+    /** Two rings that cross once: it lies on a torus, not on a sphere. */
+    static final int[] TORUS = {1, 1, 2, 1, 2};
+
+    private Examples() {
+    }
+
+    static int put(DiagramMoves moves, int[]... crossings) {
+        int answer = 0;
+        for (int[] c : crossings) {
+            answer = moves.crossing(c[0], c[1], c[2], c[3], c[4]);
+        }
+        return answer;
+    }
+
+    static DiagramMoves of(int circles, int[]... crossings) {
+        DiagramMoves moves = new DiagramMoves();
+        put(moves, crossings);
+        Due.is("check of " + Arrays.deepToString(crossings), 0, moves.check(circles));
+        return moves;
+    }
+
+    /** A circle that is twisted until it has so many crossings. */
+    static DiagramMoves twistedCircle(int crossings) {
+        DiagramMoves moves = of(1);
+        Due.is("twist(0, 1, true)", true, moves.twist(0, 1, true));
+        for (int c = 1; c < crossings; c++) {
+            Due.is("twist(1, 1, true)", true, moves.twist(1, c % 2 == 0 ? 1 : -1, c % 3 == 0));
+        }
+        return moves;
+    }
+
+    static String crossing(DiagramMoves moves, int k) {
+        return moves.look(k, 4) + ":" + moves.look(k, 0) + "," + moves.look(k, 1) + ","
+                + moves.look(k, 2) + "," + moves.look(k, 3);
+    }
+
+    static String crossings(DiagramMoves moves) {
+        StringBuilder text = new StringBuilder();
+        for (int k = 0; k < moves.many(0); k++) {
+            text.append(k == 0 ? "" : " ").append(crossing(moves, k));
+        }
+        return text.toString();
+    }
+
+    static String face(DiagramMoves moves, int k) {
+        StringBuilder text = new StringBuilder();
+        for (int i = 0; i < moves.face(k, -1); i++) {
+            text.append(i == 0 ? "" : ",").append(moves.face(k, i));
+        }
+        return text.toString();
+    }
+
+    static String faces(DiagramMoves moves) {
+        StringBuilder text = new StringBuilder();
+        for (int k = 0; k < moves.many(3); k++) {
+            text.append(k == 0 ? "" : " ").append(face(moves, k));
+        }
+        return text.toString();
+    }
+
+    /** All that can be read, but for the crossings that were put in. */
+    static String all(DiagramMoves moves) {
+        StringBuilder text = new StringBuilder(crossings(moves));
+        text.append(" | ").append(faces(moves)).append(" |");
+        for (int what = 0; what < 8; what++) {
+            text.append(what == 6 ? "" : " " + moves.many(what));
+        }
+        return text.toString();
+    }
+
+    /** The number of the face with a dart, or -1. */
+    static int faceWith(DiagramMoves moves, int dart) {
+        for (int k = 0; k < moves.many(3); k++) {
+            for (int i = 0; i < moves.face(k, -1); i++) {
+                if (moves.face(k, i) == dart) {
+                    return k;
+                }
+            }
+        }
+        return -1;
+    }
+
+    /** What there is now is a diagram, and reads the same when it is put in. */
+    static void isDiagram(String what, DiagramMoves moves) {
+        DiagramMoves again = new DiagramMoves();
+        for (int k = 0; k < moves.many(0); k++) {
+            again.crossing(moves.look(k, 4), moves.look(k, 0), moves.look(k, 1), moves.look(k, 2), moves.look(k, 3));
+        }
+        int circles = moves.many(1);
+        Due.is(what + ": check", 0, again.check(circles <= 20 ? circles : 20));
+        if (circles <= 20) {
+            Due.text(what + ": all", all(again), all(moves));
+        }
+    }
+}

@@ -25,10 +25,12 @@ public final class DiagramMoves {
     private static final int TRIANGLE = 3;
 
     /** The diagram there is, and the one that is being put in; a check that holds swaps the two. */
-    private Diagram diagram = new Diagram();
-    private Diagram draft = new Diagram();
+    private Diagram diagram;
+    private Diagram draft;
 
     public DiagramMoves() {
+        diagram = new Diagram();
+        draft = new Diagram();
     }
 
     public int crossing(int sign, int l0, int l1, int l2, int l3) {
@@ -204,6 +206,9 @@ public final class DiagramMoves {
         }
 
         void remove(int c) {
+            if (c < 0 || c >= count) {
+                return;
+            }
             int behind = count - c - 1;
             System.arraycopy(labels, 4 * (c + 1), labels, 4 * c, 4 * behind);
             System.arraycopy(signs, c + 1, signs, c, behind);
@@ -364,7 +369,7 @@ public final class DiagramMoves {
     private static final class Pieces {
         /** The least crossing of a crossing's piece. */
         final int[] ofCrossing = new int[MOST_CROSSINGS];
-        final boolean[] seen = new boolean[MOST_EDGES];
+        final int[] componentOfEdge = new int[MOST_EDGES];
         int count;
         int components;
 
@@ -398,20 +403,20 @@ public final class DiagramMoves {
         }
 
         private void countComponents(Edges edges) {
-            Arrays.fill(seen, false);
+            Arrays.fill(componentOfEdge, -1);
             components = 0;
-            for (int first = 0; first < edges.count; first++) {
-                if (!seen[first]) {
+            for (int e = 0; e < edges.count; e++) {
+                if (componentOfEdge[e] < 0) {
+                    followComponent(edges, e);
                     components++;
-                    seeComponent(edges, first);
                 }
             }
         }
 
-        private void seeComponent(Edges edges, int first) {
+        private void followComponent(Edges edges, int first) {
             int e = first;
-            for (int step = 0; step < MOST_EDGES && !seen[e]; step++) {
-                seen[e] = true;
+            for (int step = 0; step < MOST_EDGES && componentOfEdge[e] < 0; step++) {
+                componentOfEdge[e] = components;
                 e = edges.atPlace[edges.to[e] ^ 2];
             }
         }

@@ -57,7 +57,8 @@ final class Examples {
 
     static String crossings(DiagramMoves moves) {
         StringBuilder text = new StringBuilder();
-        for (int k = 0; k < moves.many(0); k++) {
+        int crossings = moves.many(0);
+        for (int k = 0; k < crossings; k++) {
             text.append(k == 0 ? "" : " ").append(crossing(moves, k));
         }
         return text.toString();
@@ -65,7 +66,8 @@ final class Examples {
 
     static String face(DiagramMoves moves, int k) {
         StringBuilder text = new StringBuilder();
-        for (int i = 0; i < moves.face(k, -1); i++) {
+        int size = moves.face(k, -1);
+        for (int i = 0; i < size; i++) {
             text.append(i == 0 ? "" : ",").append(moves.face(k, i));
         }
         return text.toString();
@@ -73,7 +75,8 @@ final class Examples {
 
     static String faces(DiagramMoves moves) {
         StringBuilder text = new StringBuilder();
-        for (int k = 0; k < moves.many(3); k++) {
+        int faces = moves.many(3);
+        for (int k = 0; k < faces; k++) {
             text.append(k == 0 ? "" : " ").append(face(moves, k));
         }
         return text.toString();
@@ -104,8 +107,10 @@ final class Examples {
     /** What there is now is a diagram, and reads the same when it is put in. */
     static void isDiagram(String what, DiagramMoves moves) {
         DiagramMoves again = new DiagramMoves();
-        for (int k = 0; k < moves.many(0); k++) {
-            again.crossing(moves.look(k, 4), moves.look(k, 0), moves.look(k, 1), moves.look(k, 2), moves.look(k, 3));
+        int crossings = moves.many(0);
+        for (int k = 0; k < crossings; k++) {
+            again.crossing(moves.look(k, 4),
+                    moves.look(k, 0), moves.look(k, 1), moves.look(k, 2), moves.look(k, 3));
         }
         int circles = moves.many(1);
         Due.is(what + ": check", 0, again.check(circles <= 20 ? circles : 20));

@@ -4,6 +4,7 @@ public final class MovesTest {
 
     public static void main(String[] args) {
         undoOne();
+        undoOneOfTwenty();
         undoTwo();
         undoRefuses();
         slideThree();
@@ -16,6 +17,8 @@ public final class MovesTest {
         pushRefuses();
         pushUpToTwentyCrossings();
         simplifyAll();
+        lowLabelsAreFree();
+        whatIsGoneIsNotThere();
         Due.end();
     }
 
@@ -34,6 +37,19 @@ public final class MovesTest {
         Due.is("twist(1, 1, true)", true, moves.twist(1, 1, true));
         Due.is("undo of the loop", 1, moves.undo(Examples.faceWith(moves, -7)));
         Due.text("as it was", before, Examples.all(moves));
+    }
+
+    private static void undoOneOfTwenty() {
+        for (int face = 0; face < 22; face++) {
+            DiagramMoves moves = Examples.twistedCircle(20);
+            boolean kink = moves.face(face, -1) == 1;
+            Due.is("pattern(" + face + ")", kink, moves.pattern(face) == 1);
+            if (kink) {
+                Due.is("undo(" + face + ")", 1, moves.undo(face));
+                Due.is("many(0)", 19, moves.many(0));
+                Examples.isDiagram("undo(" + face + ")", moves);
+            }
+        }
     }
 
     private static void undoTwo() {
@@ -242,15 +258,16 @@ public final class MovesTest {
             while (moves.face(face, -1) < 2) {
                 face++;
             }
-            String before = Examples.all(moves);
             int x = moves.face(face, 0);
             int y = moves.face(face, 1);
             boolean can = crossings <= 18;
             boolean done = moves.push(Math.abs(x), x < 0, Math.abs(y), y < 0, true);
             Due.is("push when there are " + crossings, can, done);
-            Due.is("many(0)", crossings + (can ? 2 : 0), moves.many(0));
-            Examples.isDiagram("push when there are " + crossings, moves);
-            if (!can) {
+            if (can) {
+                Due.is("many(0)", crossings + 2, moves.many(0));
+                Examples.isDiagram("push when there are " + crossings, moves);
+            } else {
+                String before = Examples.all(Examples.twistedCircle(crossings));
                 Due.text("nothing was done", before, Examples.all(moves));
             }
         }
@@ -283,5 +300,47 @@ public final class MovesTest {
                 Examples.faces(moves));
         Due.is("simplify()", 3, moves.simplify());
         Due.text("simplified", "1:1,5,2,4 1:3,1,4,10 1:5,3,10,2", Examples.crossings(moves));
+    }
+
+    private static DiagramMoves trefoilFrom11() {
+        return Examples.of(0, new int[][] {{1, 11, 15, 12, 14}, {1, 13, 11, 14, 16}, {1, 15, 13, 16, 12}});
+    }
+
+    private static void lowLabelsAreFree() {
+        DiagramMoves moves = trefoilFrom11();
+        Due.is("twist(11, -1, true)", true, moves.twist(11, -1, true));
+        Due.text("twisted", "1:2,15,12,14 1:13,11,14,16 1:15,13,16,12 -1:1,11,2,1", Examples.crossings(moves));
+        Due.text("face 0 is the loop", "1", Examples.face(moves, 0));
+        Due.is("simplify() at face 0 alone", 1, moves.simplify());
+        Due.text("the edge has the loop's label", "1:1,15,12,14 1:13,1,14,16 1:15,13,16,12",
+                Examples.crossings(moves));
+
+        moves = trefoilFrom11();
+        Due.is("push(12, false, 16, false, true)", true, moves.push(12, false, 16, false, true));
+        Due.text("pushed", "1:11,15,12,14 1:13,11,14,4 1:15,13,16,2 1:3,1,4,12 -1:16,1,3,2",
+                Examples.crossings(moves));
+    }
+
+    private static void whatIsGoneIsNotThere() {
+        DiagramMoves moves = Examples.of(0, Examples.TREFOIL);
+        Due.is("twist(1, 1, true)", true, moves.twist(1, 1, true));
+        Due.is("simplify()", 1, moves.simplify());
+        String before = Examples.all(moves);
+        Due.is("look(3, 4)", 0, moves.look(3, 4));
+        Due.is("look(3, 0)", 0, moves.look(3, 0));
+        Due.is("face(5, -1)", 0, moves.face(5, -1));
+        Due.is("pattern(5)", -1, moves.pattern(5));
+        Due.is("undo(5)", 0, moves.undo(5));
+        Due.is("slide(5)", false, moves.slide(5));
+        Due.is("twist(7, 1, true)", false, moves.twist(7, 1, true));
+        Due.is("twist(8, 1, true)", false, moves.twist(8, 1, true));
+        Due.is("push(7, false, 1, false, true)", false, moves.push(7, false, 1, false, true));
+        Due.text("nothing was done", before, Examples.all(moves));
+
+        moves = Examples.twistedCircle(20);
+        Due.is("look(20, 0)", 0, moves.look(20, 0));
+        Due.is("look(20, 4)", 0, moves.look(20, 4));
+        Due.is("face(22, -1)", 0, moves.face(22, -1));
+        Due.is("push(41, false, 42, false, true)", false, moves.push(41, false, 42, false, true));
     }
 }

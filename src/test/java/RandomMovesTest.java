@@ -123,7 +123,7 @@ public final class RandomMovesTest {
         }
         int want = model.check(1);
         is("check(1)", want, moves.check(1));
-        readAll();
+        moveAndRead();
         return want;
     }
 

@@ -21,6 +21,11 @@ public final class PublicFaceTest {
         "public int DiagramMoves.simplify()"};
 
     public static void main(String[] args) {
+        Due.test("The public face", PublicFaceTest::face);
+        Due.end();
+    }
+
+    private static void face() {
         int modifiers = DiagramMoves.class.getModifiers();
         Due.is("public", true, Modifier.isPublic(modifiers));
         Due.is("final", true, Modifier.isFinal(modifiers));
@@ -36,6 +41,5 @@ public final class PublicFaceTest {
         for (Field field : DiagramMoves.class.getDeclaredFields()) {
             Due.is(field + " is private", true, Modifier.isPrivate(field.getModifiers()));
         }
-        Due.end();
     }
 }

@@ -25,6 +25,12 @@ public final class RandomMovesTest {
     }
 
     public static void main(String[] args) {
+        Due.test("Random moves of the examples", RandomMovesTest::moveExamples);
+        Due.test("Random crossings and moves", RandomMovesTest::moveAnything);
+        Due.end();
+    }
+
+    private static void moveExamples() {
         int[] done = new int[5];
         for (int seed = 0; seed < 6000 && !Due.someWrong(); seed++) {
             RandomMovesTest run = new RandomMovesTest(seed);
@@ -38,6 +44,9 @@ public final class RandomMovesTest {
         for (int number : done) {
             Due.is("enough of each move", true, number > 1000);
         }
+    }
+
+    private static void moveAnything() {
         int[] answers = new int[4];
         for (int seed = 0; seed < 6000 && !Due.someWrong(); seed++) {
             answers[new RandomMovesTest(seed).putInAnything()]++;
@@ -46,7 +55,6 @@ public final class RandomMovesTest {
         for (int number : answers) {
             Due.is("enough of each answer", true, number > 200);
         }
-        Due.end();
     }
 
     private void is(String call, int want, int got) {

@@ -44,11 +44,15 @@ final class PlainModel {
                 return -1;
             }
         }
-        if (sign * sign != 1 || putIn.size() == 20) {
+        if (!isSign(sign) || putIn.size() == 20) {
             return -1;
         }
         putIn.add(made);
         return putIn.size();
+    }
+
+    private static boolean isSign(int sign) {
+        return sign == 1 || sign == -1;
     }
 
     int check(int number) {
@@ -356,7 +360,7 @@ final class PlainModel {
 
     boolean twist(int label, int sign, boolean above) {
         boolean there = label == 0 ? circles > 0 : labels().contains(label);
-        if (!there || sign * sign != 1 || row.size() == 20) {
+        if (!there || !isSign(sign) || row.size() == 20) {
             return false;
         }
         int[] free = free(2);

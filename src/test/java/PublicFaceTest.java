@@ -36,6 +36,10 @@ public final class PublicFaceTest {
             }
         }
         Due.text("methods", new TreeSet<>(Arrays.asList(FACE)).toString(), methods.toString());
+        Due.text("classes inside that are public", "[]", Arrays.toString(DiagramMoves.class.getClasses()));
+        Due.text("interfaces", "[]", Arrays.toString(DiagramMoves.class.getInterfaces()));
+        Due.is("no class above it", true, DiagramMoves.class.getSuperclass() == Object.class);
+        Due.text("package", "", DiagramMoves.class.getPackageName());
         Constructor<?>[] constructors = DiagramMoves.class.getDeclaredConstructors();
         Due.text("constructors", "[public DiagramMoves()]", Arrays.toString(constructors));
         for (Field field : DiagramMoves.class.getDeclaredFields()) {
